@@ -590,7 +590,6 @@ public final class ProofTrimmer {
             count = many;
         }
 
-
         /** Whether none of the literals is true and at most one is neither. */
         boolean isReady(int literals) {
             int neither = literals & ~falsehoods;
@@ -611,7 +610,7 @@ public final class ProofTrimmer {
             return true;
         }
 
-        /** The clauses used in a conflict; a reason's false literals became false before it, so one way back is enough. */
+        /** The clauses used in a conflict. A reason's false literals were so before it: one way back is enough. */
         long usedFor(int conflict, int[] sets) {
             long used = one(conflict);
             int looked = sets[conflict];
@@ -807,7 +806,7 @@ public final class ProofTrimmer {
             return true;
         }
 
-        /** Follows hints as long as they are above 0: whether each may stand there, a conflict only as the last one. */
+        /** Follows hints as long as they are above 0: whether each may stand there, a conflict as the last one. */
         private boolean followsPositives(int c) {
             conflict = false;
             while (next < trace.countOf(c) && trace.hintAt(c, next) > 0) {

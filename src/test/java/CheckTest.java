@@ -14,7 +14,9 @@ public final class CheckTest {
         usedOnly();
         byPivot();
         withoutPartners();
-        partnersAreTriedAlike();
+        manyPartnersMarked();
+        markedAfterTheLastPartner();
+        manyHints();
         wrong();
         open();
         again();
@@ -92,8 +94,8 @@ public final class CheckTest {
         Due.due("without any hint: marked(5)", y.marked(5), true);
     }
 
-    private static void partnersAreTriedAlike() {
-        // 1 .. 4 refute themselves; the partners 5 .. 17 are marked only after the last one.
+    private static void manyPartnersMarked() {
+        // The partners 5 .. 17 follow from 4; they are needed only because 18 has them as partners.
         ProofTrimmer x = manyPartners();
         Due.due("partners: check()", x.check(), 16);
         for (int c = 5; c <= 17; c++) {
@@ -109,6 +111,15 @@ public final class CheckTest {
         Due.hintsDue("partners", x, 20, 18, 19, 2, 4);
     }
 
+    private static void markedAfterTheLastPartner() {
+        // For partner 1 the clauses 5, 7 and 8 are used. Were they marked then, partner 2 would take 7 before 3.
+        ProofTrimmer x = Due.of("p cnf 8 9 -1 2 0 -1 3 0 -6 8 3 0 -6 -8 3 0 2 6 0 3 6 0 -6 7 0 -6 -7 0 -2 -3 0", "1 0 0");
+        Due.due("markedAfterTheLastPartner: check()", x.check(), 2);
+        Due.hintsDue("markedAfterTheLastPartner", x, 10, -1, 5, 7, 8, -2, 6, 3, 4);
+        Due.hintsDue("markedAfterTheLastPartner", x, 11, 10, 1, 2, 9);
+        Due.marksDue("markedAfterTheLastPartner", x, 1, 2, 3, 4, 5, 6, 7, 8, 9, 10, 11);
+    }
+
     static ProofTrimmer manyPartners() {
         ProofTrimmer x = Due.of(SQUARE);
         for (int i = 0; i < 13; i++) {
@@ -117,6 +128,24 @@ public final class CheckTest {
         Due.typeBytes(x, 97, 16, 0, 97, 17, 2, 0, 97, 0);
         x.proof(true);
         return x;
+    }
+
+    private static void manyHints() {
+        // 1 .. 7 refute -1, 8 and 9 refute 1; 10 .. 16 and the added 17 .. 30 are partners of 31, each for itself.
+        ProofTrimmer x = Due.of("p cnf 8 16 1 2 0 -2 3 0 -3 4 0 -4 5 0 -5 6 0 -6 7 0 -7 -2 0 -1 7 0 -1 -7 0"
+            + " -8 1 0".repeat(7), "-8 1 0\n".repeat(14) + "8 0 0");
+        Due.due("manyHints: check()", x.check(), 16);
+        int[] hints = new int[21 * 8];
+        for (int i = 0; i < hints.length; i++) {
+            hints[i] = i % 8 == 0 ? -10 - i / 8 : i % 8;
+        }
+        for (int c = 17; c <= 30; c++) {
+            // 10 would be a conflict at once, but 1, and then 2 and so on, have smaller numbers.
+            Due.hintsDue("manyHints", x, c, 1, 2, 3, 4, 5, 6, 7);
+        }
+        Due.hintsDue("manyHints", x, 31, hints);
+        Due.hintsDue("manyHints", x, 32, 31, 10, 8, 9);
+        Due.due("manyHints: verify()", x.verify(), 0);
     }
 
     private static void wrong() {

@@ -34,7 +34,7 @@ public final class FormulaTest {
             "", " ", "\n", "p", "p cnf", "p cnf 1", "pcnf 1 0", "p  cnf1 0", "P cnf 1 0", "p CNF 1 0", "p cnx 1 0",
             "p cn 1 0", "p cnff 1 0", "c p cnf 1 0", "cnf p 1 0", "cnf 1 0", "p 1 0", "p cnf 0 0", "p cnf 9 0",
             "p cnf -1 0", "p cnf 10 0", "p cnf 01 0", "p cnf +1 0", "p cnf 1 00", "p cnf 1 -0", "p cnf 1 -1",
-            "p cnf 1 17" + " 0".repeat(17), "p cnf 1 100", "p cnf 1 x", "p cnf x 0", "p cnf 1 0 0", "p cnf 1 0 p",
+            "p cnf 1 17" + " 0".repeat(17), "p cnf 1 100", "p cnf 1 :" + " 0".repeat(10), "p cnf 1 /" + " 0", "p cnf 1 x", "p cnf x 0", "p cnf 1 0 0", "p cnf 1 0 p",
             "p cnf 1 1", "p cnf 1 1 1", "p cnf 1 2 1 0", "p cnf 1 1 1 0 1 0", "p cnf 1 1 1 0 1", "p cnf 1 1 2 0",
             "p cnf 1 1 -2 0", "p cnf 7 1 8 0", "p cnf 8 1 9 0", "p cnf 8 1 -9 0", "p cnf 2 1 1 1 0",
             "p cnf 2 1 1 -1 0", "p cnf 2 1 -2 1 -2 0", "p cnf 8 1 1 2 3 4 5 6 7 8 1 0", "p cnf 2 1 1 -0",

@@ -145,6 +145,9 @@ public final class VerifyTest {
         Due.due("a partner without a conflict: verify()", x.verify(), 18);
         x.poke(18, 25, -17);
         Due.due("the last partner twice: verify()", x.verify(), 18);
+        ProofTrimmer z = checked(CheckTest.PIVOT, "1 2 0 0");
+        z.poke(11, 2, 3);
+        Due.due("a partner without its minus: verify()", z.verify(), 11);
         ProofTrimmer y = checked(CheckTest.NO_PARTNER, "8 0 -8 1 0 0");
         y.poke(6, 0, -5);
         Due.due("a partner that is none: verify()", y.verify(), 6);
