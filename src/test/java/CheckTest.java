@@ -113,7 +113,8 @@ public final class CheckTest {
 
     private static void markedAfterTheLastPartner() {
         // For partner 1 the clauses 5, 7 and 8 are used. Were they marked then, partner 2 would take 7 before 3.
-        ProofTrimmer x = Due.of("p cnf 8 9 -1 2 0 -1 3 0 -6 8 3 0 -6 -8 3 0 2 6 0 3 6 0 -6 7 0 -6 -7 0 -2 -3 0", "1 0 0");
+        String formula = "p cnf 8 9 -1 2 0 -1 3 0 -6 8 3 0 -6 -8 3 0 2 6 0 3 6 0 -6 7 0 -6 -7 0 -2 -3 0";
+        ProofTrimmer x = Due.of(formula, "1 0 0");
         Due.due("markedAfterTheLastPartner: check()", x.check(), 2);
         Due.hintsDue("markedAfterTheLastPartner", x, 10, -1, 5, 7, 8, -2, 6, 3, 4);
         Due.hintsDue("markedAfterTheLastPartner", x, 11, 10, 1, 2, 9);

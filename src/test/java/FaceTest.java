@@ -54,8 +54,8 @@ public final class FaceTest {
             if (!Modifier.isPrivate(method.getModifiers())) {
                 Due.due("the modifiers of " + method, Modifier.toString(method.getModifiers()), "public");
                 String thrown = names(method.getExceptionTypes());
-                found.add(method.getReturnType() + " " + method.getName() + "(" + names(method.getParameterTypes()) + ")"
-                    + (thrown.isEmpty() ? "" : " throws " + thrown));
+                found.add(method.getReturnType() + " " + method.getName()
+                    + "(" + names(method.getParameterTypes()) + ")" + (thrown.isEmpty() ? "" : " throws " + thrown));
             }
         }
         Due.due("the methods", found, new TreeSet<>(METHODS));
