@@ -1,19 +1,43 @@
+import java.io.IOException;
+import java.io.UncheckedIOException;
 import java.nio.charset.StandardCharsets;
+import java.nio.file.Files;
+import java.nio.file.Path;
 import java.util.function.IntSupplier;
 
 /** Prints and counts the answers that are not the ones that are due, and types whole texts. */
 final class Due {
     static final String STATE = "throws.IllegalStateException";
     static final String ARGUMENT = "throws.IllegalArgumentException";
+    private static final Path DOCUMENT = Path.of("..", "shared", "DOC.md");
+    private static String document = "";
+    private static String about = "";
     private static int wrong = 0;
 
     private Due() {
     }
 
+    /** What is due from here on is due by this sentence, which must stand in the document word by word. */
+    static void sentence(String words) {
+        about = "\"" + words + "\" ";
+        due("the words of the document", document().contains(words), true);
+    }
+
+    private static String document() {
+        if (document.isEmpty()) {
+            try {
+                document = Files.readString(DOCUMENT);
+            } catch (IOException e) {
+                throw new UncheckedIOException(e);
+            }
+        }
+        return document;
+    }
+
     static void due(String call, Object got, Object want) {
         if (!String.valueOf(got).equals(String.valueOf(want))) {
             wrong++;
-            System.out.println(call + " answered " + got + ", due is " + want);
+            System.out.println(about + call + " answered " + got + ", due is " + want);
         }
     }
 
@@ -62,6 +86,13 @@ final class Due {
         return x;
     }
 
+    /** A new object with this formula and this proof in characters, after a check. */
+    static ProofTrimmer checked(String formula, String proof) {
+        ProofTrimmer x = of(formula, proof);
+        x.check();
+        return x;
+    }
+
     static void hintsDue(String what, ProofTrimmer x, int c, int... want) {
         due(what + ": hints(" + c + ")", x.hints(c), want.length);
         for (int k = 0; k < want.length; k++) {
@@ -81,12 +112,64 @@ final class Due {
         }
     }
 
+    /** The steps from 1 on added or took just these, and there is none before or behind them. */
+    static void stepsDue(String what, ProofTrimmer x, int... want) {
+        due(what + ": step(0)", x.step(0), ProofTrimmer.NONE);
+        for (int s = 1; s <= want.length; s++) {
+            due(what + ": step(" + s + ")", x.step(s), want[s - 1]);
+        }
+        due(what + ": the step behind the last one", x.step(want.length + 1), ProofTrimmer.NONE);
+    }
+
+    /** Nothing is checked: no mark, no hint, and nothing to go over or to write. */
+    static void nothingChecked(String what, ProofTrimmer x) {
+        marksDue(what, x);
+        for (int c = 1; c <= x.clauses(); c++) {
+            due(what + ": hints(" + c + ")", x.hints(c), 0);
+            due(what + ": hint(" + c + ", 0)", x.hint(c, 0), 0);
+            due(what + ": poke(" + c + ", 0, 1)", x.poke(c, 0, 1), false);
+        }
+        due(what + ": verify()", answer(x::verify), STATE);
+        due(what + ": write()", answer(x::write), STATE);
+    }
+
     static String allWritten(ProofTrimmer x, int length) {
         StringBuilder all = new StringBuilder();
         for (int i = 0; i < length; i++) {
             all.append((char) x.written(i));
         }
         return all.toString();
+    }
+
+    /** All that an object tells without being changed. */
+    static String told(ProofTrimmer x) {
+        StringBuilder all = new StringBuilder();
+        for (int c = 1; c <= x.clauses(); c++) {
+            all.append(c).append(x.marked(c) ? " marked" : "").append(" of");
+            for (int k = 0; k < x.size(c); k++) {
+                all.append(' ').append(x.literal(c, k));
+            }
+            all.append(" by");
+            for (int k = 0; k < x.hints(c); k++) {
+                all.append(' ').append(x.hint(c, k));
+            }
+            all.append('\n');
+        }
+        for (int s = 1; x.step(s) != ProofTrimmer.NONE; s++) {
+            all.append(" step ").append(x.step(s));
+        }
+        all.append('\n');
+        for (int i = 0; x.written(i) != ProofTrimmer.NONE; i++) {
+            all.append((char) x.written(i));
+        }
+        return all.toString();
+    }
+
+    /** A call throws this, and all that can be told, gone over and written is as it was. */
+    static void refusedDue(String call, ProofTrimmer x, IntSupplier refused, String thrown) {
+        String before = told(x) + answer(x::verify) + answer(x::write);
+        due(call, answer(refused), thrown);
+        due(call + " leaves everything", told(x) + answer(x::verify) + answer(x::write), before);
     }
 
     static void end() {

