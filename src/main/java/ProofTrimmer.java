@@ -16,10 +16,10 @@ public final class ProofTrimmer {
     private static final int MOST_NUMBER = MOST_CLAUSES + MOST_STEPS;
     // A step is written with at most "d ", three characters for each literal, "0" and a line end.
     private static final int MOST_WRITTEN = MOST_STEPS * (3 * VARIABLES + 4);
-    // A clause with P partners has at most 8 * P hints: each partner's number, at most 6 reasons (the
-    // pivot's variable and one of the partner's are assumed) and a conflict. The added clause j has at
-    // most 8 + j partners, since of the 15 + j before it 7 are those reasons and that conflict. The sum
-    // over j = 1 .. 15 is 1920, and the empty clause has at most 9.
+    // A clause with P partners has at most 8 * P hints (8 without one): each partner's number, at most 6
+    // reasons (the pivot's variable and one of the partner's are assumed) and a conflict. The added
+    // clause j has at most 8 + j partners, since of the 15 + j before it 7 are those reasons and that
+    // conflict. The sum over j = 1 .. 15 is 1920, and the empty clause has at most 9.
     private static final int MOST_HINTS = 2048;
     private static final int BLANK = 32;
     private static final int LINE_END = 10;

@@ -26,6 +26,8 @@ public final class CheckTest {
         liveAgain();
         tookNone();
         allVariablesAssumed();
+        hintsInTheirOrder();
+        conflictAlone();
         emptyIsWrong();
         firstLiteralIsPivot();
         noPartner();
@@ -38,12 +40,15 @@ public final class CheckTest {
         secondPartnerWrong();
         eachPartnerForItself();
         markedAfterTheLastPartner();
+        reasonsOnlyThen();
         allReasonsOfTheFirst();
         mostHints();
         marksOfNoClause();
         hintsOfNoClause();
         noSuchHint();
         checkedAgain();
+        checkedMostTimes();
+        mostHintsForgotten();
         throwingLeavesEverything();
         Due.end();
     }
@@ -200,8 +205,7 @@ public final class CheckTest {
 
     private static void mostReasons() {
         Due.sentence("Otherwise the one that is neither becomes true, and the clause is its REASON.");
-        ProofTrimmer x = checksTo(1,
-            "p cnf 8 9 1 0 -1 2 0 -2 3 0 -3 4 0 -4 5 0 -5 6 0 -6 7 0 -7 8 0 -8 -1 -2 -3 -4 -5 -6 -7 0", "0");
+        ProofTrimmer x = checksTo(1, Samples.EIGHT_REASONS, "0");
         Due.hintsDue("eight reasons", x, 10, 1, 2, 3, 4, 5, 6, 7, 8, 9);
         ProofTrimmer y = checksTo(-1, "p cnf 8 8 1 0 2 0 3 0 4 0 5 0 6 0 7 0 8 0", "0");
         Due.nothingChecked("eight reasons and no conflict", y);
@@ -254,6 +258,21 @@ public final class CheckTest {
         for (int c = 5; c <= 17; c++) {
             Due.hintsDue("eight literals", x, c, 4);
         }
+    }
+
+    private static void hintsInTheirOrder() {
+        Due.sentence("in the order in which they became reasons, and at last the conflict's.");
+        ProofTrimmer x = checksTo(2, "p cnf 4 5 -4 -2 0 -3 4 0 -2 3 0 1 2 0 -1 2 0", "1 0 0");
+        Due.hintsDue("4 became one first", x, 6, 4, 1, 2, 3);
+        Due.hintsDue("6 became one first", x, 7, 6, 5, 1, 2, 3);
+    }
+
+    private static void conflictAlone() {
+        Due.sentence("If there is a conflict, the clause is DERIVED: all used clauses are marked");
+        ProofTrimmer x = checksTo(2, "p cnf 2 3 1 0 -1 0 -2 0", "1 2 0 d 1 0 0");
+        Due.hintsDue("no reason", x, 4, 1);
+        Due.hintsDue("two reasons", x, 5, 2, 3, 4);
+        Due.marksDue("no reason", x, 1, 2, 3, 4, 5);
     }
 
     private static void emptyIsWrong() {
@@ -367,6 +386,12 @@ public final class CheckTest {
         Due.marksDue("two partners", x, 1, 2, 3, 4, 5, 6, 7, 8, 9, 10, 11);
     }
 
+    private static void reasonsOnlyThen() {
+        Due.sentence("the used reasons that became so only then, in their order, and the conflict's number.");
+        // For partner 3, 1 is used, but was a reason before; 4, 5 and 6 become so only then, and 5 is not used.
+        Due.hintsDue("4 and 6", checksTo(2, Samples.PIVOT, Samples.PIVOT_PROOF), 11, 1, -2, -3, 4, 6, 7);
+    }
+
     private static void allReasonsOfTheFirst() {
         Due.sentence("The hints are: the numbers of all reasons of the first propagation, in their order");
         // By 4 a literal is true that 2 needs: first 4, then 2; neither is used for partner 1.
@@ -449,6 +474,32 @@ public final class CheckTest {
         Due.hintsDue("again", x, 11, 1, -2, -3, 4, 6, 7);
         Due.hintsDue("again", x, 12, 8, 11, 3, 9, 10);
         Due.due("verify()", Due.answer(x::verify), 0);
+    }
+
+    private static void checkedMostTimes() {
+        Due.sentence("An object is used for at most 512 calls after it has been made");
+        ProofTrimmer x = Samples.manyHints();
+        for (int i = 1; i <= 100; i++) {
+            Due.due("check() for time " + i, Due.answer(x::check), 16);
+            Due.due("hints(31) for time " + i, x.hints(31), 168);
+            Due.due("hint(31, 167) for time " + i, x.hint(31, 167), 7);
+        }
+        Due.hintsDue("at last", x, 17, 1, 2, 3, 4, 5, 6, 7);
+        Due.hintsDue("at last", x, 32, 31, 10, 8, 9);
+        Due.due("verify() at last", Due.answer(x::verify), 0);
+    }
+
+    private static void mostHintsForgotten() {
+        Due.sentence("The text is the proof from now on, and is empty then; nothing is checked");
+        ProofTrimmer x = Samples.manyHints();
+        x.check();
+        x.proof(false);
+        Due.nothingChecked("a new proof behind all that can be", x);
+        ProofTrimmer y = Samples.manyHints();
+        y.check();
+        Due.type(y, "p cnf 1 0");
+        y.formula();
+        Due.nothingChecked("a new formula behind all that can be", y);
     }
 
     private static void throwingLeavesEverything() {

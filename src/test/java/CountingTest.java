@@ -23,6 +23,7 @@ public final class CountingTest {
         takesAnyOrder();
         takesOnlyTheSame();
         takesNone();
+        stepThatTookNone();
         takesNothingTwice();
         takesNothingThatComesLater();
         takesEmptyClauses();
@@ -194,6 +195,13 @@ public final class CountingTest {
         Due.sentence("(it takes none if there is none)");
         Due.stepsDue("nothing live", Due.of("p cnf 1 0", "d 1 0 d 0 0"), 0, 0, 1);
         Due.stepsDue("nothing alike", Due.of("p cnf 1 1 1 0", "d -1 0"), 0);
+    }
+
+    private static void stepThatTookNone() {
+        Due.sentence("The number of the clause that step s (from 1) added, or took (0 when it took none)");
+        // 0 is not NONE: the step is there.
+        ProofTrimmer x = Due.of("p cnf 1 1 1 0", "d -1 0 -1 0 d -1 0 0 d 1 0");
+        Due.stepsDue("took none, added, took, added", x, 0, 2, 2, 3);
     }
 
     private static void takesNothingTwice() {

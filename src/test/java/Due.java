@@ -124,7 +124,7 @@ final class Due {
     /** Nothing is checked: no mark, no hint, and nothing to go over or to write. */
     static void nothingChecked(String what, ProofTrimmer x) {
         marksDue(what, x);
-        for (int c = 1; c <= x.clauses(); c++) {
+        for (int c = 1; c <= 32; c++) {
             due(what + ": hints(" + c + ")", x.hints(c), 0);
             due(what + ": hint(" + c + ", 0)", x.hint(c, 0), 0);
             due(what + ": poke(" + c + ", 0, 1)", x.poke(c, 0, 1), false);

@@ -1,3 +1,6 @@
+import java.util.LinkedHashMap;
+import java.util.Map;
+
 /** Formulas and proofs that several tests use. */
 final class Samples {
     /** All four signs of two variables: 1 and 3 tell 1, and 2 and 4 tell -1. */
@@ -16,11 +19,32 @@ final class Samples {
     static final String TWO_PARTNERS =
         "p cnf 8 11 -1 2 0 -1 3 4 0 1 2 0 3 5 0 4 -5 0 3 4 0 1 6 0 7 8 0 7 -8 0 -7 8 0 -7 -8 0";
     static final String TWO_PARTNERS_PROOF = "1 0 -1 7 0 0";
+    /** Eight reasons, one for each variable, and a conflict. */
+    static final String EIGHT_REASONS =
+        "p cnf 8 9 1 0 -1 2 0 -2 3 0 -3 4 0 -4 5 0 -5 6 0 -6 7 0 -7 8 0 -8 -1 -2 -3 -4 -5 -6 -7 0";
     /** For partner 3 the literal -3 is assumed, for partner 4 only -5. */
     static final String EACH_FOR_ITSELF = "p cnf 7 8 3 4 0 3 -4 0 -1 3 0 -1 5 0 5 6 0 5 -6 0 -3 -5 7 0 -3 -5 -7 0";
     static final String EACH_FOR_ITSELF_PROOF = "1 0 0";
 
     private Samples() {
+    }
+
+    /** Objects for which nothing is checked, by the way in which they came to that. */
+    static Map<String, ProofTrimmer> unchecked() {
+        Map<String, ProofTrimmer> all = new LinkedHashMap<>();
+        all.put("a new object", new ProofTrimmer());
+        all.put("a formula alone", Due.of(SQUARE));
+        all.put("a proof before its check", Due.of(SQUARE, "1 0 0"));
+        all.put("an open proof", Due.checked(SQUARE, "1 0"));
+        all.put("a wrong proof", Due.checked(SQUARE, "0"));
+        ProofTrimmer newProof = Due.checked(SQUARE, "1 0 0");
+        newProof.proof(false);
+        all.put("a new proof", newProof);
+        ProofTrimmer newFormula = Due.checked(SQUARE, "1 0 0");
+        Due.type(newFormula, SQUARE);
+        newFormula.formula();
+        all.put("a new formula", newFormula);
+        return all;
     }
 
     /** The longest clauses, 5 .. 17, follow from 4; they are needed only because 18 has them as partners. */

@@ -16,6 +16,7 @@ public final class VerifyTest {
         firstBad();
         lastBad();
         otherGoodHints();
+        formulaIsLiveAtFirst();
         numbersOfNoClause();
         clausesNotLiveYet();
         clausesNotLiveAnyMore();
@@ -27,6 +28,7 @@ public final class VerifyTest {
         conflictOfPartnerIsLast();
         noMoreBehindConflict();
         partnersByNumber();
+        partnersLeftOut();
         partnersAreLive();
         nothingBehindSettledPartner();
         partnerNotSettledByHints();
@@ -152,18 +154,7 @@ public final class VerifyTest {
 
     private static void nothingIsChecked() {
         Due.sentence("otherwise the number of the first bad one. IllegalStateException when nothing is checked.");
-        Due.due("a new object", Due.answer(new ProofTrimmer()::verify), Due.STATE);
-        Due.due("a formula alone", Due.answer(Due.of(Samples.SQUARE)::verify), Due.STATE);
-        Due.due("before the check", Due.answer(Due.of(Samples.SQUARE, "1 0 0")::verify), Due.STATE);
-        Due.due("an open proof", Due.answer(Due.checked(Samples.SQUARE, "1 0")::verify), Due.STATE);
-        Due.due("a wrong proof", Due.answer(Due.checked(Samples.SQUARE, "0")::verify), Due.STATE);
-        ProofTrimmer x = square();
-        x.proof(false);
-        Due.due("a new proof", Due.answer(x::verify), Due.STATE);
-        ProofTrimmer y = square();
-        Due.type(y, Samples.SQUARE);
-        y.formula();
-        Due.due("a new formula", Due.answer(y::verify), Due.STATE);
+        Samples.unchecked().forEach((what, x) -> Due.due(what + ": verify()", Due.answer(x::verify), Due.STATE));
     }
 
     private static void throwingLeavesEverything() {
@@ -191,6 +182,7 @@ public final class VerifyTest {
         verifiesTo("no partner", 0, Due.checked(Samples.NO_PARTNER, Samples.NO_PARTNER_PROOF));
         verifiesTo("no partner and no hint", 0, Due.checked(Samples.SQUARE, "8 0 -8 1 0 0"));
         verifiesTo("two partners", 0, twoPartners());
+        verifiesTo("eight reasons", 0, Due.checked(Samples.EIGHT_REASONS, "0"));
         verifiesTo("each for itself", 0, Due.checked(Samples.EACH_FOR_ITSELF, Samples.EACH_FOR_ITSELF_PROOF));
         verifiesTo("steps behind the last that counts", 0, Due.checked(Samples.SQUARE, "1 0 0 d 1 2 0 8 0 0"));
         ProofTrimmer y = Samples.manyPartners();
@@ -239,6 +231,16 @@ public final class VerifyTest {
         poked(0, x, 7, 4, 3);
         poked(0, pivot(), 11, 1, -2, -3, 6, 4, 7);
         poked(0, twoPartners(), 12, 7, 3, -1, -2, 4, 5);
+    }
+
+    private static void formulaIsLiveAtFirst() {
+        Due.sentence("live are at first the clauses of the formula.");
+        // 1 and 2 are not marked, but of the formula, and taken only later.
+        ProofTrimmer x = Due.checked(Samples.TWO_WAYS, Samples.TWO_WAYS_PROOF);
+        Due.due("marked(1)", x.marked(1), false);
+        poked(0, x, 7, 1, 2);
+        ProofTrimmer y = Due.checked("p cnf 2 16" + " 1 2 0".repeat(14) + " 2 0 -2 0", "0");
+        poked(0, y, 17, 16, 15);
     }
 
     private static void numbersOfNoClause() {
@@ -365,6 +367,17 @@ public final class VerifyTest {
         poked(9, x, 9, -3, 1, 2, -5, 5, 6);
         poked(9, x, 9, -3, 1, 2, Integer.MIN_VALUE, 5, 6);
         poked(9, x, 9, -3, 1, 2, -68, 5, 6);
+    }
+
+    private static void partnersLeftOut() {
+        Due.sentence("otherwise there must follow, for each live clause with the opposite of the first literal");
+        // Each may stand there, but there is no conflict, and 6 and 7 are left out.
+        poked(8, longer(), 8, 1, 4, 2);
+        // 9, 10 and 11 are good for nothing for partner 3, but may stand there: then there is no room for partner 4.
+        ProofTrimmer x = Due.checked("p cnf 8 11 3 4 0 3 -4 0 -1 3 0 -1 5 0 5 6 0 5 -6 0 -3 -5 7 0 -3 -5 -7 0"
+            + " 3 8 0 3 2 0 3 7 0", "1 0 0");
+        Due.hintsDue("each for itself", x, 12, -3, 1, 2, -4, 5, 6);
+        poked(12, x, 12, -3, 9, 10, 11, 1, 2);
     }
 
     private static void partnersAreLive() {

@@ -32,18 +32,7 @@ public final class WriteTest {
 
     private static void nothingIsChecked() {
         Due.sentence("How many characters these are. IllegalStateException when nothing is checked.");
-        Due.due("a new object", Due.answer(new ProofTrimmer()::write), Due.STATE);
-        Due.due("a formula alone", Due.answer(Due.of(Samples.SQUARE)::write), Due.STATE);
-        Due.due("before the check", Due.answer(Due.of(Samples.SQUARE, "1 0 0")::write), Due.STATE);
-        Due.due("an open proof", Due.answer(Due.checked(Samples.SQUARE, "1 0")::write), Due.STATE);
-        Due.due("a wrong proof", Due.answer(Due.checked(Samples.SQUARE, "0")::write), Due.STATE);
-        ProofTrimmer x = Due.checked(Samples.SQUARE, "1 0 0");
-        x.proof(false);
-        Due.due("a new proof", Due.answer(x::write), Due.STATE);
-        ProofTrimmer y = Due.checked(Samples.SQUARE, "1 0 0");
-        Due.type(y, Samples.SQUARE);
-        y.formula();
-        Due.due("a new formula", Due.answer(y::write), Due.STATE);
+        Samples.unchecked().forEach((what, x) -> Due.due(what + ": write()", Due.answer(x::write), Due.STATE));
     }
 
     private static void shortest() {
