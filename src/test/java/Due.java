@@ -3,7 +3,7 @@ import java.io.UncheckedIOException;
 import java.nio.charset.StandardCharsets;
 import java.nio.file.Files;
 import java.nio.file.Path;
-import java.util.function.IntSupplier;
+import java.util.function.Supplier;
 
 /** Prints and counts the answers that are not the ones that are due, and types whole texts. */
 final class Due {
@@ -23,7 +23,7 @@ final class Due {
         due("the words of the document", document().contains(words), true);
     }
 
-    private static String document() {
+    static String document() {
         if (document.isEmpty()) {
             try {
                 document = Files.readString(DOCUMENT);
@@ -42,9 +42,9 @@ final class Due {
     }
 
     /** What a call answers, or the name of what it throws. */
-    static String answer(IntSupplier call) {
+    static String answer(Supplier<?> call) {
         try {
-            return String.valueOf(call.getAsInt());
+            return String.valueOf(call.get());
         } catch (RuntimeException e) {
             return "throws." + e.getClass().getSimpleName();
         }
@@ -166,7 +166,7 @@ final class Due {
     }
 
     /** A call throws this, and all that can be told, gone over and written is as it was. */
-    static void refusedDue(String call, ProofTrimmer x, IntSupplier refused, String thrown) {
+    static void refusedDue(String call, ProofTrimmer x, Supplier<?> refused, String thrown) {
         String before = told(x) + answer(x::verify) + answer(x::write);
         due(call, answer(refused), thrown);
         due(call + " leaves everything", told(x) + answer(x::verify) + answer(x::write), before);

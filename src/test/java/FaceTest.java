@@ -1,4 +1,5 @@
 import java.io.IOException;
+import java.lang.reflect.Executable;
 import java.lang.reflect.Field;
 import java.lang.reflect.Method;
 import java.lang.reflect.Modifier;
@@ -7,30 +8,15 @@ import java.nio.file.Path;
 import java.util.ArrayList;
 import java.util.Arrays;
 import java.util.List;
+import java.util.Set;
 import java.util.TreeSet;
+import java.util.stream.Collectors;
 
-/** The document's face, member by member, and those rules of LANGUAGE.md that can be looked up. */
+/** The class against the document's face, member by member, and those rules of LANGUAGE.md that can be looked up. */
 public final class FaceTest {
     private static final Path SOURCE = Path.of("src/main/java/ProofTrimmer.java");
-    private static final List<String> METHODS = List.of(
-        "int type(long,int)",
-        "int wipe()",
-        "int formula() throws IllegalArgumentException",
-        "int proof(boolean) throws IllegalStateException,IllegalArgumentException",
-        "int check() throws IllegalStateException",
-        "int clauses()",
-        "int size(int)",
-        "int literal(int,int)",
-        "int step(int)",
-        "boolean marked(int)",
-        "int hints(int)",
-        "int hint(int,int)",
-        "boolean poke(int,int,int)",
-        "int verify() throws IllegalStateException",
-        "int write() throws IllegalStateException",
-        "int written(int)");
 
-    public static void main(String[] args) throws IOException {
+    public static void main(String[] args) throws IOException, IllegalAccessException {
         members();
         nested();
         words();
@@ -38,33 +24,48 @@ public final class FaceTest {
         Due.end();
     }
 
-    private static String names(Class<?>[] types) {
-        List<String> names = new ArrayList<>();
-        for (Class<?> type : types) {
-            names.add(type.getSimpleName());
-        }
-        return String.join(",", names);
-    }
-
-    private static void members() {
-        Class<?> face = ProofTrimmer.class;
-        Due.due("the class", Modifier.toString(face.getModifiers()), "public final");
-        Due.due("the constructors", Arrays.toString(face.getDeclaredConstructors()), "[public ProofTrimmer()]");
-        Due.due("NONE", ProofTrimmer.NONE, -1000);
-        TreeSet<String> found = new TreeSet<>();
-        for (Method method : face.getDeclaredMethods()) {
-            if (!Modifier.isPrivate(method.getModifiers())) {
-                Due.due("the modifiers of " + method, Modifier.toString(method.getModifiers()), "public");
-                String thrown = names(method.getExceptionTypes());
-                found.add(method.getReturnType() + " " + method.getName()
-                    + "(" + names(method.getParameterTypes()) + ")" + (thrown.isEmpty() ? "" : " throws " + thrown));
+    /** The face as the document shows it, a line for each member, without the parameters' names. */
+    private static TreeSet<String> shownFace() {
+        String document = Due.document();
+        int start = document.indexOf("```java\n", document.indexOf("## The public face")) + 8;
+        TreeSet<String> face = new TreeSet<>();
+        for (String line : document.substring(start, document.indexOf("```", start)).split("\n")) {
+            if (line.startsWith("    ")) {
+                face.add(line.strip().replaceAll("\\b(int|long|boolean) \\w+(?=[,)])", "$1"));
             }
         }
-        Due.due("the methods", found, new TreeSet<>(METHODS));
-        for (Field field : face.getDeclaredFields()) {
-            String due = field.getName().equals("NONE") ? "public static final" : "private";
-            Due.due("the modifiers of " + field, Modifier.toString(field.getModifiers()).startsWith(due), true);
+        return face;
+    }
+
+    private static String names(Class<?>[] types) {
+        return Arrays.stream(types).map(Class::getSimpleName).collect(Collectors.joining(", "));
+    }
+
+    private static String shown(Executable member, String name) {
+        String thrown = names(member.getExceptionTypes());
+        return Modifier.toString(member.getModifiers()) + " " + name + "(" + names(member.getParameterTypes()) + ")"
+            + (thrown.isEmpty() ? "" : " throws " + thrown) + ";";
+    }
+
+    private static void members() throws IllegalAccessException {
+        Class<?> face = ProofTrimmer.class;
+        Due.due("the class", Modifier.toString(face.getModifiers()), "public final");
+        TreeSet<String> found = new TreeSet<>();
+        for (Executable constructor : face.getDeclaredConstructors()) {
+            found.add(shown(constructor, face.getSimpleName()));
         }
+        for (Method method : face.getDeclaredMethods()) {
+            if (!Modifier.isPrivate(method.getModifiers())) {
+                found.add(shown(method, method.getReturnType() + " " + method.getName()));
+            }
+        }
+        for (Field field : face.getDeclaredFields()) {
+            if (!Modifier.isPrivate(field.getModifiers())) {
+                found.add(Modifier.toString(field.getModifiers()) + " " + field.getType() + " " + field.getName()
+                    + " = " + field.get(null) + ";");
+            }
+        }
+        Due.due("the members", found, shownFace());
     }
 
     private static void nested() {
@@ -75,6 +76,8 @@ public final class FaceTest {
             Due.due("hidden " + one, Modifier.isPublic(modifiers) || Modifier.isProtected(modifiers), false);
         }
         classes.add(ProofTrimmer.class);
+        Set<String> names = Arrays.stream(ProofTrimmer.class.getMethods()).map(Method::getName)
+            .collect(Collectors.toSet());
         Due.due("at most twelve classes", classes.size() <= 12, true);
         for (Class<?> one : classes) {
             int fields = 0;
@@ -85,7 +88,7 @@ public final class FaceTest {
             }
             Due.due("at most twenty fields: " + one, fields <= 20, true);
             for (Method method : one.getDeclaredMethods()) {
-                boolean bearsName = METHODS.stream().anyMatch(m -> m.contains(" " + method.getName() + "("));
+                boolean bearsName = names.contains(method.getName());
                 boolean isPrivate = Modifier.isPrivate(method.getModifiers());
                 Due.due("a private method with a name of the face: " + method, isPrivate && bearsName, false);
                 Due.due("at most seven parameters: " + method, method.getParameterCount() <= 7, true);
@@ -116,7 +119,8 @@ public final class FaceTest {
                 Due.due("at most sixty lines: " + lines[i], endOf(lines, i) - i < 60, true);
             }
         }
-        Due.due("the methods were found", methods >= METHODS.size() + 1, true);
+        // All members that the document shows are methods or constructors, but for the constant.
+        Due.due("the methods were found", methods >= shownFace().size() - 1, true);
     }
 
     /** The line where the braces that open in a line are closed. */
